@@ -44,7 +44,10 @@ final class Check {
         }
     }
 
-    /** All that the calls tell that change nothing. */
+    /**
+     * All that the calls tell that change nothing. These may be more than the 512 calls that the
+     * document promises to answer; the program counts no calls, so it answers them all alike.
+     */
     static String stateOf(WayFinder finder) {
         StringBuilder text = new StringBuilder();
         for (int what = 0; what < 4; what++) {

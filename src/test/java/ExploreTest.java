@@ -75,6 +75,9 @@ public final class ExploreTest {
         ways("ones", Check.with(Check.i(9, 0, 0, 0)), "0 0 3 0 40:" + "1".repeat(40));
         WayFinder mixed = Check.with(Check.i(8, 0, 0, 0), Check.i(9, 0, 1, 0));
         ways("zeros and ones", mixed, "0 1 0 0 2:00", "0 0 3 1 40:" + "01".repeat(20));
+        WayFinder lastIsZero = Check.with(Check.i(8, 0, 0, 0), Check.i(8, 0, 0, 0),
+                Check.i(9, 0, 0, 1));
+        ways("a zero at the end", lastIsZero, "0 0 3 1 40:0" + "01".repeat(19) + "0");
     }
 
     private static WayFinder sixBits() {
@@ -108,6 +111,8 @@ public final class ExploreTest {
         }
         check.refuses("way 64 of 64", Check.MISSING, finder, () -> finder.way(64, 0));
         check.due("match of what is alike", finder.match(0, 0), finder.match(8, 8));
+        finder.instr(9, 0, 3, 24);
+        check.refuses("match of seven decisions", Check.MISSING, finder, () -> finder.match(7, 7));
     }
 
     /** 64 ways, and one more for x = 15, which only width 4 has. */

@@ -11,8 +11,8 @@ public final class ModelTest {
     // The numbers must be the same in every run of this test, so they come from this state alone.
     private static long numbers = 20261115L;
 
-    private WayFinder finder = new WayFinder();
-    private Model model = new Model();
+    private final WayFinder finder = new WayFinder();
+    private final Model model = new Model();
     private final int object;
 
     private ModelTest(int object) {
@@ -27,6 +27,9 @@ public final class ModelTest {
     }
 
     private void calls() {
+        if (below(4) == 0) {
+            manyWays();
+        }
         // Programs of many instructions are rare by chance, so some objects begin with one.
         int first = below(3) * below(13);
         for (int call = 0; call < CALLS; call++) {
@@ -90,8 +93,25 @@ public final class ModelTest {
         int a = mostly(4);
         int b = op == 0 ? mostly(below(2) == 0 ? 16 : 256) : mostly(4);
         int c = op == 7 ? mostly(8) : op >= 8 && op <= 10 ? mostly(25) : mostly(4);
+        instr(op, a, b, c);
+    }
+
+    private void instr(int op, int a, int b, int c) {
         compare("instr " + op + " " + a + " " + b + " " + c,
                 () -> finder.instr(op, a, b, c), () -> model.instr(op, a, b, c));
+    }
+
+    /** Seven decisions on bits of x or y: by chance some 16 to 128 ways. */
+    private void manyWays() {
+        compare("width 4", () -> finder.width(4), () -> model.width(4));
+        instr(0, 3, 1, 0);
+        for (int bit = 0; bit < 7; bit++) {
+            int input = below(2);
+            instr(3, 2, input, 3);
+            instr(9, 2, 3, model.count(0) + 1);
+            instr(7, input, input, 1);
+        }
+        explore();
     }
 
     private void explore() {
