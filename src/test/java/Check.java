@@ -8,6 +8,15 @@ final class Check {
     static final Class<?> MISSING = NoSuchElementException.class;
 
     private int wrong = 0;
+    private String sentence = "";
+
+    /**
+     * Tells which sentence of the document the answers from here on are due by; " .. " stands for
+     * words left out.
+     */
+    void by(String sentence) {
+        this.sentence = "\"" + sentence + "\": ";
+    }
 
     void due(String what, int want, int got) {
         due(what, Integer.toString(want), Integer.toString(got));
@@ -16,15 +25,29 @@ final class Check {
     void due(String what, String want, String got) {
         if (!want.equals(got)) {
             wrong++;
-            System.out.println(what + " answered " + got + ", due is " + want);
+            System.out.println(sentence + what + " answered " + got + ", due is " + want);
         }
     }
 
-    /** The call throws exactly this kind, and the object answers all questions as before. */
-    void refuses(String what, Class<?> kind, WayFinder finder, IntSupplier call) {
-        String before = stateOf(finder);
+    /** The call answers this; if it throws, that is printed and the test goes on. */
+    void answers(String what, int want, IntSupplier call) {
+        due(what, Integer.toString(want), answerOf(call));
+    }
+
+    /** Runs, and compares the outcome and the three answers of last. */
+    void runs(String what, Recorded finder, int x, int y, int... want) {
+        answers(what + ": outcome", want[0], () -> finder.run(x, y));
+        for (int n = 0; n < 3; n++) {
+            int asked = n;
+            answers(what + ": last(" + n + ")", want[n + 1], () -> finder.last(asked));
+        }
+    }
+
+    /** The call throws exactly this kind, and the object tells all that it told before. */
+    void refuses(String what, Class<?> kind, Recorded finder, IntSupplier call) {
+        String before = State.of(finder);
         due(what, "throws " + kind.getName(), answerOf(call));
-        due("the state behind " + what, before, stateOf(finder));
+        due("the state behind " + what, before, State.of(finder));
     }
 
     /** Ends the program with exit code 1 if an answer was not as due. */
@@ -41,56 +64,6 @@ final class Check {
             return Integer.toString(call.getAsInt());
         } catch (RuntimeException e) {
             return "throws " + e.getClass().getName();
-        }
-    }
-
-    /**
-     * All that the calls tell that change nothing. These may be more than the 512 calls that the
-     * document promises to answer; the program counts no calls, so it answers them all alike.
-     */
-    static String stateOf(WayFinder finder) {
-        StringBuilder text = new StringBuilder();
-        for (int what = 0; what < 4; what++) {
-            int asked = what;
-            text.append(finder.count(asked)).append(' ');
-            text.append(answerOf(() -> finder.last(asked))).append(' ');
-            text.append(answerOf(() -> finder.example(asked))).append(' ');
-        }
-        text.append(finder.covered()).append('\n');
-        for (int k = 0; k < finder.count(2); k++) {
-            text.append(wayOf(finder, k)).append('\n');
-        }
-        int inputs = 1 << finder.count(1);
-        for (int at = 0; at < inputs * inputs; at++) {
-            int x = at / inputs;
-            int y = at % inputs;
-            text.append(answerOf(() -> finder.match(x, y))).append(' ');
-        }
-        return text.toString();
-    }
-
-    /** The five facts of a way and its decisions, such as "1 0 3 24 3:010". */
-    static String wayOf(WayFinder finder, int k) {
-        StringBuilder text = new StringBuilder();
-        for (int what = 0; what < 5; what++) {
-            text.append(finder.way(k, what)).append(what < 4 ? ' ' : ':');
-        }
-        for (int j = 0; j < finder.way(k, 4); j++) {
-            text.append(finder.decision(k, j));
-        }
-        return text.toString();
-    }
-
-    /** A new object with the instructions of rows of four numbers. */
-    static WayFinder with(int[]... instructions) {
-        WayFinder finder = new WayFinder();
-        add(finder, instructions);
-        return finder;
-    }
-
-    static void add(WayFinder finder, int[]... instructions) {
-        for (int[] i : instructions) {
-            finder.instr(i[0], i[1], i[2], i[3]);
         }
     }
 
