@@ -20,6 +20,7 @@ public final class FaceTest {
         noNameIsSharedWithTheFace(WayFinder.class);
         staticFieldsAreFinal(WayFinder.class);
         for (Class<?> inside : WayFinder.class.getDeclaredClasses()) {
+            isStaticAndHidden(inside);
             noNameIsSharedWithTheFace(inside);
             staticFieldsAreFinal(inside);
         }
@@ -72,6 +73,13 @@ public final class FaceTest {
     private static void isPrivate(Member member) {
         check.due(member.getName() + " is private", "true",
                 "" + Modifier.isPrivate(member.getModifiers()));
+    }
+
+    private static void isStaticAndHidden(Class<?> inside) {
+        int modifiers = inside.getModifiers();
+        check.due(inside.getName() + " is static", "true", "" + Modifier.isStatic(modifiers));
+        check.due(inside.getName() + " is public or protected", "false",
+                "" + (Modifier.isPublic(modifiers) || Modifier.isProtected(modifiers)));
     }
 
     private static void noNameIsSharedWithTheFace(Class<?> kind) {
